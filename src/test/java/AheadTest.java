@@ -10,6 +10,7 @@ public final class AheadTest {
         meanWait();
         digestOfNewHouse();
         digest();
+        digestLooksTwentyMinutesAhead();
         Check.finish("AheadTest");
     }
 
@@ -172,12 +173,8 @@ public final class AheadTest {
 
     private static void digestOfNewHouse() {
         long[] numbers = {0, 0, 0, 200, 0, 0, 0, 0, -1, 0, 0, 0, -1, 0};
-        long want = 2377;
-        for (long number : numbers) {
-            want = want * 31 + number;
-        }
         HouseBells x = new HouseBells();
-        due("41: of a new house", x, () -> x.digest(), want);
+        due("41: of a new house", x, () -> x.digest(), mix(2377, numbers));
     }
 
     private static void digest() {
@@ -192,10 +189,51 @@ public final class AheadTest {
             1, 1, 0, 1, -1, 49, -1, -1, 1,
             0, 0, 1, 1, -1, 0, -1, 1, 0,
             0, 1, -1, 1};
-        long want = 2377;
-        for (long number : numbers) {
-            want = want * 31 + number;
+        due("41: of a house", x, () -> x.digest(), mix(2377, numbers));
+    }
+
+    private static void digestLooksTwentyMinutesAhead() {
+        HouseBells x = waitingThree(8);
+        due("41: with a third service at 20", x, () -> x.digest(), digestOf(x, 3));
+        HouseBells y = waitingThree(9);
+        due("41: with a third service at 21", y, () -> y.digest(), digestOf(y, 2));
+    }
+
+    /** One servant serves room 0 at 2, room 1 behind the need of room 0, then room 2. */
+    private static HouseBells waitingThree(int need) {
+        HouseBells x = new HouseBells();
+        x.addRoom(0, 9, need);
+        x.addRoom(0, 9, 8);
+        x.addRoom(0, 9, 1);
+        x.addServant(1);
+        x.ring(0);
+        x.ring(1);
+        x.ring(2);
+        return x;
+    }
+
+    /** The digest by the class's own answers, but for servedIn(20). */
+    private static long digestOf(HouseBells x, int servedInTwenty) {
+        long[] house = {x.minute(), x.rooms(), x.servants(), x.charge(), x.served(), x.inVain(), x.gaveUp(),
+            x.unheard(), x.longestWaiting(), x.crossed(), x.crossingsNeeded(), x.fallen(), x.nextDrop(), servedInTwenty};
+        long d = mix(2377, house);
+        for (int r = 0; r < x.rooms(); r++) {
+            long[] room = {x.dropOf(r), x.roomOf(r), x.isCut(r) ? 1 : 0, x.waitedFor(r), x.placeInLine(r),
+                x.ringsLeft(r), x.nearestIdle(r), x.minutesUntilServed(r), x.bestToCross(r)};
+            d = mix(d, room);
         }
-        due("41: of a house", x, () -> x.digest(), want);
+        for (int s = 0; s < x.servants(); s++) {
+            long[] servant = {x.floorOf(s), x.goesTo(s), x.serves(s), x.minutesLeft(s)};
+            d = mix(d, servant);
+        }
+        return d;
+    }
+
+    private static long mix(long start, long[] numbers) {
+        long d = start;
+        for (long number : numbers) {
+            d = d * 31 + number;
+        }
+        return d;
     }
 }

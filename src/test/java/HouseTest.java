@@ -286,6 +286,11 @@ public final class HouseTest {
         Check.due("10: rings unheard by a cut wire", x.unheard(), 2);
         Check.due("10: a cut wire takes nothing", x.charge(), 100);
         Check.due("10: has waited", x.waitedFor(0), 16);
+        HouseBells y = new HouseBells();
+        y.addRoom(0, 1, 1);
+        y.ring(0);
+        y.pass(30);
+        Check.due("10: rings each minute until 29", y.charge(), 170);
     }
 
     private static void passGivesUp() {

@@ -232,6 +232,10 @@ public final class LookTest {
         y.pass(3);
         Check.due("35: wayTo of one who serves", y.wayTo(0, 0), 1);
         Check.due("35: wayTo down", y.wayTo(0, 1), 4);
+        HouseBells z = Check.house(Check.floors(2, 5), 2);
+        z.ring(0);
+        z.pass(2);
+        Check.due("35: wayTo up from floor 2", z.wayTo(0, 1), 2);
         Check.outside("35: wayTo(1, 0)", y, () -> y.wayTo(1, 0));
         Check.outside("35: wayTo(-1, 0)", y, () -> y.wayTo(-1, 0));
         Check.outside("35: wayTo(0, 2)", y, () -> y.wayTo(0, 2));
