@@ -10,6 +10,15 @@ final class Check {
         Object answer();
     }
 
+    /** Makes the same house each time. */
+    interface Maker {
+        HouseBells make();
+    }
+
+    interface Ask {
+        Object of(HouseBells house);
+    }
+
     static void due(String what, Object got, Object want) {
         looked++;
         if (!want.equals(got)) {
@@ -18,11 +27,11 @@ final class Check {
         }
     }
 
-    /** The call throws just this exception (no class below it), and the house stays as it is. */
+    /** The call throws just this exception (no class below it), and the digest stays as it is. */
     static void refused(String what, HouseBells house, Class<?> exception, Call call) {
-        String before = look(house);
-        due(what, outcome(call), "throws " + exception.getName());
-        due(what + " changes nothing", look(house), before);
+        long before = house.digest();
+        due(what, outcome(call), thrown(exception));
+        due(what + " leaves the digest", house.digest(), before);
     }
 
     static void outside(String what, HouseBells house, Call call) {
@@ -37,13 +46,41 @@ final class Check {
         refused(what, house, IllegalStateException.class, call);
     }
 
+    /** As refused, but on a new house, which then answers as its twin that was never asked. */
+    static void refusedLikeTwin(String what, Maker maker, Class<?> exception, Ask ask) {
+        HouseBells asked = maker.make();
+        due(what, outcome(() -> ask.of(asked)), thrown(exception));
+        likeTwin(what, asked, maker.make());
+    }
+
+    /** The call answers, and the house then answers as its twin that was never asked. */
+    static void changesNothing(String what, Maker maker, Ask ask) {
+        HouseBells asked = maker.make();
+        String outcome = outcome(() -> ask.of(asked));
+        due(what + " answers: " + outcome, outcome.startsWith("throws"), false);
+        likeTwin(what, asked, maker.make());
+    }
+
+    /** Some minutes later too, for what does not show at once, such as the need of a room. */
+    private static void likeTwin(String what, HouseBells asked, HouseBells twin) {
+        due(what + " changes nothing", look(asked), look(twin));
+        due(what + " changes nothing by digest", asked.digest(), twin.digest());
+        due(what + " changes nothing by pass", asked.pass(7), twin.pass(7));
+        due(what + " changes nothing later", look(asked), look(twin));
+        due(what + " changes nothing later by digest", asked.digest(), twin.digest());
+    }
+
     /** The answer as a text, or the exception's name. */
     static String outcome(Call call) {
         try {
             return String.valueOf(call.answer());
         } catch (RuntimeException e) {
-            return "throws " + e.getClass().getName();
+            return thrown(e.getClass());
         }
+    }
+
+    private static String thrown(Class<?> exception) {
+        return "throws " + exception.getName();
     }
 
     /** Every answer that looks at the house, without those that the digest is made for. */
@@ -83,6 +120,17 @@ final class Check {
 
     static int[] floors(int... floors) {
         return floors;
+    }
+
+    /** As many rooms as there can be, all on floor 0. */
+    static int[] twelveFloors() {
+        return new int[12];
+    }
+
+    static void ringAll(HouseBells x) {
+        for (int room = 0; room < x.rooms(); room++) {
+            x.ring(room);
+        }
     }
 
     static void finish(String test) {

@@ -12,8 +12,6 @@ public final class LookTest {
         servants();
         ways();
         nearestIdle();
-        refused();
-        refusedWhenEmpty();
         Check.finish("LookTest");
     }
 
@@ -265,48 +263,5 @@ public final class LookTest {
         x.ring(2);
         x.pass(1);
         Check.due("36: none is idle", x.nearestIdle(0), -1);
-    }
-
-    private static void refused() {
-        HouseBells x = Check.house(Check.floors(0, 1, 2), 1, 2);
-        x.ring(1);
-        for (int wrong : new int[] {-1, 3, 12, Integer.MAX_VALUE, Integer.MIN_VALUE}) {
-            outsideOfRooms(x, wrong);
-        }
-        for (int wrong : new int[] {-1, 2, 6, Integer.MAX_VALUE, Integer.MIN_VALUE}) {
-            outsideOfServants(x, wrong);
-        }
-    }
-
-    private static void refusedWhenEmpty() {
-        HouseBells x = new HouseBells();
-        outsideOfRooms(x, 0);
-        outsideOfServants(x, 0);
-        Check.outside("4: ring(0)", x, () -> x.ring(0));
-        Check.outside("5: cross(0, 0)", x, () -> x.cross(0, 0));
-        Check.outside("6: cut(0)", x, () -> x.cut(0));
-        Check.outside("7: mend(0)", x, () -> x.mend(0));
-        Check.outside("9: putUp(0)", x, () -> x.putUp(0));
-        Check.outside("35: wayTo(0, 0)", x, () -> x.wayTo(0, 0));
-    }
-
-    private static void outsideOfRooms(HouseBells x, int wrong) {
-        Check.outside("19: dropOf(" + wrong + ")", x, () -> x.dropOf(wrong));
-        Check.outside("20: roomOf(" + wrong + ")", x, () -> x.roomOf(wrong));
-        Check.outside("21: isCut(" + wrong + ")", x, () -> x.isCut(wrong));
-        Check.outside("22: waitedFor(" + wrong + ")", x, () -> x.waitedFor(wrong));
-        Check.outside("27: hasFallen(" + wrong + ")", x, () -> x.hasFallen(wrong));
-        Check.outside("28: placeInLine(" + wrong + ")", x, () -> x.placeInLine(wrong));
-        Check.outside("30: ringsLeft(" + wrong + ")", x, () -> x.ringsLeft(wrong));
-        Check.outside("36: nearestIdle(" + wrong + ")", x, () -> x.nearestIdle(wrong));
-        Check.outside("37: minutesUntilServed(" + wrong + ")", x, () -> x.minutesUntilServed(wrong));
-        Check.outside("39: bestToCross(" + wrong + ")", x, () -> x.bestToCross(wrong));
-    }
-
-    private static void outsideOfServants(HouseBells x, int wrong) {
-        Check.outside("31: floorOf(" + wrong + ")", x, () -> x.floorOf(wrong));
-        Check.outside("32: goesTo(" + wrong + ")", x, () -> x.goesTo(wrong));
-        Check.outside("33: serves(" + wrong + ")", x, () -> x.serves(wrong));
-        Check.outside("34: minutesLeft(" + wrong + ")", x, () -> x.minutesLeft(wrong));
     }
 }
